@@ -18,6 +18,7 @@ public final class BuildTest {
         depthAndLimit();
         edgesOfWhatCanBeMade();
         allIsGone();
+        slotsThatServeAgain();
         CHECK.end();
     }
 
@@ -80,6 +81,12 @@ public final class BuildTest {
         y.glue(0, 0, 0, 0);
         y.build();
         CHECK.due("a break: glue behind a box", y.count(3), 1);
+        ColumnDesk z = new ColumnDesk();
+        z.page(10, 0);
+        z.box(0, 10, 0, 0);
+        z.glue(7, 0, 0, 0);
+        z.build();
+        CHECK.due("weighed without the glue", z.sum(4), 0);
     }
 
     private static void kernBreaks() {
@@ -97,6 +104,13 @@ public final class BuildTest {
         x.build();
         CHECK.due("a break: a kern ahead of glue", x.count(3), 1);
         CHECK.due("both came", x.sum(0), 38);
+        ColumnDesk y = new ColumnDesk();
+        y.page(10, 0);
+        y.box(0, 10, 0, 0);
+        y.kern(5);
+        y.glue(3, 0, 0, 0);
+        CHECK.due("weighed without the kern: no page ends", y.build(), 0);
+        CHECK.due("weighed without the kern: cost", y.sum(4), 0);
     }
 
     private static void penaltyBreaks() {
@@ -130,6 +144,7 @@ public final class BuildTest {
         CHECK.due("no excess", cost(50, 50, 0, 0, 7), 7);
         CHECK.due("no stretch", cost(50, 49, 0, 9, 7), 100000);
         CHECK.due("as much as the stretch", cost(50, 40, 10, 0, 0), 100);
+        CHECK.due("as much as a stretch of 1", cost(50, 49, 1, 0, 0), 100);
         CHECK.due("half the stretch", cost(50, 45, 10, 0, 0), 12);
         CHECK.due("r is 1290", cost(1290, 0, 297, 0, 0), 8189);
         CHECK.due("r is 1291", cost(1291, 0, 297, 0, 0), 100000);
@@ -396,5 +411,28 @@ public final class BuildTest {
         CHECK.due("what was told stays: height", x.about(0, 0), 100);
         CHECK.items("what was told stays: top glue", x, 0, 1, 2, 6);
         CHECK.throwsIndex("only the new page is kept", () -> x.about(1, 0));
+    }
+
+    private static void slotsThatServeAgain() {
+        ColumnDesk x = new ColumnDesk();
+        x.page(90, 0);
+        for (int i = 0; i < 5; i++) {
+            x.rule(8, 7, 6);
+            x.penalty(10000);
+            x.glue(5, 4, 3, 2);
+        }
+        x.penalty(-10000);
+        CHECK.due("a first page", x.build(), 1);
+        x.box(1, 1, 0, 0);
+        for (int i = 0; i < 14; i++) {
+            x.kern(1);
+        }
+        x.penalty(-10000);
+        CHECK.due("a second page", x.build(), 1);
+        for (int i = 2; i < 16; i++) {
+            CHECK.due("the height of a kern", x.item(0, i, 2), 0);
+            CHECK.due("the depth of a kern", x.item(0, i, 3), 0);
+            CHECK.due("the width of a kern", x.item(0, i, 1), 1);
+        }
     }
 }

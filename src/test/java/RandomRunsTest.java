@@ -1,10 +1,13 @@
 import java.util.Random;
 
-/** Runs of 512 calls with fixed seeds: ColumnDesk answers as PlainDesk does. */
+/** Runs with fixed seeds: ColumnDesk answers as PlainDesk does. */
 public final class RandomRunsTest {
     private static final int MOST = 1073741823;
     private static final int RUNS = 2000;
     private static final int CALLS = 512;
+    // No promise reaches so far, but no call may ever fail, and only such runs come to 4000 items.
+    private static final int LONG_RUNS = 6;
+    private static final int LONG_CALLS = 9000;
 
     private final Check check = new Check("RandomRunsTest");
     private Random random;
@@ -17,19 +20,21 @@ public final class RandomRunsTest {
     public static void main(String[] args) {
         RandomRunsTest test = new RandomRunsTest();
         for (int seed = 0; seed < RUNS; seed++) {
-            test.oneRun(seed);
+            test.oneRun(seed, CALLS, 1 + seed % 40);
+        }
+        for (int seed = 0; seed < LONG_RUNS; seed++) {
+            test.oneRun(seed, LONG_CALLS, 6000);
         }
         test.check.end();
     }
 
-    private void oneRun(int seed) {
+    private void oneRun(int seed, int calls, int buildEvery) {
         random = new Random(seed);
         wild = seed % 8 == 0 ? 2 : seed % 8 < 3 ? 1 : 0;
         x = new ColumnDesk();
         y = new PlainDesk();
-        int buildEvery = 1 + random.nextInt(40);
         tellPage();
-        for (int i = 0; i < CALLS; i++) {
+        for (int i = 0; i < calls; i++) {
             run = "seed " + seed + ", call " + i + ": ";
             if (random.nextInt(buildEvery) == 0) {
                 build();
