@@ -104,6 +104,8 @@ public final class MadePageTest {
             int past = Math.min(i, 8);
             CHECK.throwsIndex(i + " made: about(" + past + ", 0)", () -> x.about(past, 0));
             CHECK.throwsIndex(i + " made: item(" + past + ", 0, 0)", () -> x.item(past, 0, 0));
+            CHECK.throwsIndex(i + " made: about(-1, 0)", () -> x.about(-1, 0));
+            CHECK.throwsIndex(i + " made: item(-1, 0, 0)", () -> x.item(-1, 0, 0));
         }
     }
 

@@ -80,6 +80,9 @@ public final class TermsTest {
         CHECK.due("r is 1291 in great numbers", badness(129100, 29700), 100000);
         CHECK.due("r is 0.99", badness(1, 300), 0);
         CHECK.due("t and s as great as can be", badness(MOST, MOST), 100);
+        for (long r = 0; r <= 1290; r++) {
+            CHECK.due("r is " + r, badness((int) r, 297), (r * r * r + 131072) / 262144);
+        }
     }
 
     /** Two glues share an excess; answers what the first of them gets. */
@@ -336,6 +339,14 @@ public final class TermsTest {
     }
 
     private static void setWidthAtItsGreatest() {
+        ColumnDesk x = desk(MOST, 0);
+        x.box(0, 0, 0, 0);
+        x.penalty(10000);
+        x.glue(MOST, 1, 0, 0);
+        x.kern(-MOST);
+        x.kern(-MOST);
+        CHECK.due("glue that is told at its greatest", forceEnd(x), 1);
+        CHECK.due("as it is set", x.item(0, 3, 1), 2147483647);
         CHECK.due("as it is told", greatestSetWidth(0), 2147483646);
         CHECK.due("just the greatest", greatestSetWidth(1), 2147483647);
         CHECK.due("one more", greatestSetWidth(2), 2147483647);
